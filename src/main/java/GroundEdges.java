@@ -342,14 +342,8 @@ public final class GroundEdges {
         private int beyond;
 
         Ground() {
-            becomeNew();
-        }
-
-        void becomeNew() {
             columns = 1;
             rows = 1;
-            heights = 0;
-            fixed = 0;
             beyond = NONE;
         }
 
@@ -531,6 +525,8 @@ public final class GroundEdges {
         private static final int LETTERS = 0, FIGURES = 1, SIGN = 2;
 
         private final char[] letters;
+        /** Never changed: what a text does not tell is as here. */
+        private final Ground atFirst;
         private int length;
         /** The token in hand: the place of its first letter, and the place behind its last. */
         private int from;
@@ -544,6 +540,7 @@ public final class GroundEdges {
 
         Telling() {
             letters = new char[MOST_LETTERS];
+            atFirst = new Ground();
         }
 
         boolean add(char letter) {
@@ -572,7 +569,7 @@ public final class GroundEdges {
         }
 
         private void begin(Ground draft) {
-            draft.becomeNew();
+            draft.become(atFirst);
             to = 0;
             due = WORD;
             items = 0;
