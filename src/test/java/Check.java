@@ -1,14 +1,36 @@
+import java.io.IOException;
+import java.nio.file.Files;
+import java.nio.file.Path;
 import java.util.function.IntSupplier;
 
 /** What the tests share: answers held against what is due, and texts typed as a whole. */
 final class Check {
     private static final int MOST_PRINTED = 40;
+    private static final Path DOCUMENT = Path.of("../shared/DOC.md");
     private int asked = 0;
     private int wrong = 0;
     private String part = "";
+    private String document;
 
     void part(String name) {
         part = name;
+    }
+
+    /** The answers that follow are a test of these words of the document, which must stand there. */
+    void sentence(String words) {
+        part = words;
+        if (document == null) {
+            document = document();
+        }
+        isTrue("the document says this", document.isEmpty() || document.contains(words));
+    }
+
+    private static String document() {
+        try {
+            return Files.exists(DOCUMENT) ? Files.readString(DOCUMENT) : "";
+        } catch (IOException unreadable) {
+            return "";
+        }
     }
 
     void due(String call, long got, long want) {
@@ -38,6 +60,13 @@ final class Check {
         wrong++;
         if (wrong <= MOST_PRINTED) {
             System.out.println(part + ": " + what);
+        }
+    }
+
+    void same(String what, String got, String want) {
+        asked++;
+        if (!got.equals(want)) {
+            wrong(what + " is " + got + ", due is " + want);
         }
     }
 
@@ -100,18 +129,10 @@ final class Check {
     }
 
     void map(String when, GroundEdges ground, String want) {
-        asked++;
-        String got = map(ground);
-        if (!got.equals(want)) {
-            wrong(when + ": the map is " + got + ", due is " + want);
-        }
+        same(when + ": the map", map(ground), want);
     }
 
     void fixed(String when, GroundEdges ground, String want) {
-        asked++;
-        String got = fixedCells(ground);
-        if (!got.equals(want)) {
-            wrong(when + ": fixed are " + got + ", due is " + want);
-        }
+        same(when + ": what is fixed", fixedCells(ground), want);
     }
 }
