@@ -39,6 +39,7 @@ public final class TermsTest {
         fixedOnesToo();
         settledAsByLeastChange();
         eachThatIsDoneCanBeUndone();
+        doneBehindWhatIsUndone();
         refusedOnesAreNotUndone();
         sixAreKnown();
         nothingIsChangedByAsking();
@@ -554,6 +555,46 @@ public final class TermsTest {
         }
     }
 
+    /** A map that is not as the last call that did something left it. */
+    private static void doneBehindWhatIsUndone() {
+        CHECK.sentence("THE MAP, FIXED, BEYOND are as ahead of it");
+        for (int done = 1; done <= 4; done++) {
+            for (int ahead = 0; ahead < 3; ahead++) {
+                GroundEdges g = Check.told("row013;row333;fix2 1;beyond2;");
+                g.keep(0);
+                if (ahead < 2) {
+                    Check.tell(g, "row0;");
+                    due("the map again", ahead == 0 ? g.undo() : g.back(0), ahead == 0 ? 1 : 6);
+                } else {
+                    due("a fault", Check.tell(g, "row2222;fix0 0;beyond0"), -10 - 22);
+                }
+                doneOn(g, done);
+                due("beyond", g.count(2), 2);
+            }
+        }
+    }
+
+    private static void doneOn(GroundEdges g, int done) {
+        switch (done) {
+            case 1:
+                due("paints()", g.paints(0, 0, 0, 0, 1), 1);
+                CHECK.map("painted", g, "113 333");
+                break;
+            case 2:
+                due("floods()", g.floods(0, 0, 1), 1);
+                CHECK.map("flooded", g, "113 333");
+                break;
+            case 3:
+                due("settles()", g.settles(), 2);
+                CHECK.map("settled", g, "223 333");
+                break;
+            default:
+                due("fixes()", g.fixes(0, 0, 1), 2);
+                CHECK.map("fixed", g, "013 333");
+        }
+        CHECK.fixed("behind it", g, done == 4 ? "100 001" : "000 001");
+    }
+
     private static void refusedOnesAreNotUndone() {
         CHECK.sentence("that was not refused");
         GroundEdges g = Check.told("row12;");
@@ -679,6 +720,10 @@ public final class TermsTest {
         lookIs("row1123;", 2);
         lookIs("row2223;", 3);
         lookIs("row0122;", 1);
+        GroundEdges g = Check.told("row1020;beyond0;");
+        g.sees(1, 0);
+        due("look() of two with square 0", g.look(), 2);
+        due("look() again", g.look(), 2);
         lookIs("row0012;", 1);
     }
 

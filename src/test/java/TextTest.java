@@ -328,8 +328,8 @@ public final class TextTest {
 
     private static void faultOfAWord() {
         CHECK.sentence("of a word that is none of these");
-        for (String word : new String[] {"r", "ro", "ow", "rows", "roww", "rrow", "rowrow", "rowfix", "f", "fi", "ix", "fixx", "ffix", "beyon", "eyond",
-            "beyonds", "bbeyond", "beyondrow", "a", "z", "end", "abcdefghijklmnopqrstuvwxyz"}) {
+        for (String word : new String[] {"r", "ro", "ow", "rows", "roww", "rrow", "rowrow", "rowfix", "low", "raw", "rob", "f", "fi", "ix", "fixx", "ffix", "mix", "fox", "fit", "beyon", "eyond",
+            "beyonds", "seyond", "bexond", "beyont", "bbeyond", "beyondrow", "a", "z", "end", "abcdefghijklmnopqrstuvwxyz"}) {
             fault(word, 0);
             fault(word + "0;", 0);
             fault("row0; " + word + " 0;", 6);
