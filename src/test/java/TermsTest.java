@@ -21,6 +21,7 @@ public final class TermsTest {
         cellsOfALayer();
         beyondOfALayer();
         maskOfACellThatIsNotOfTheLayer();
+        maskFromNoneToAll();
         cornersCountOnlyBetweenTwo();
         squaresOneByOne();
         squareOfACellThatIsNotOfTheLayer();
@@ -28,6 +29,7 @@ public final class TermsTest {
         kindsAsTheyComeFirst();
         jarringIsMoreThanOneApart();
         jarringAmongNeighboursAlone();
+        changedAreThoseOfAnotherHeight();
         leastIsNoChange();
         leastOfAllFixed();
         leastAsFarAsItGoes();
@@ -251,6 +253,25 @@ public final class TermsTest {
         }
     }
 
+    private static void maskFromNoneToAll() {
+        CHECK.sentence("of NEIGHBOURS k (0 to 7) that are OF the LAYER, 2 to the k, together");
+        GroundEdges g = Check.told("row000;row010;row000;");
+        due("none", g.square(1, 1, 1, 0), 0);
+        int[] order = {0, 2, 1, 4, 3, 6, 5, 7};
+        int[] sums = {1, 5, 7, 23, 31, 95, 127, 255};
+        for (int i = 0; i < 8; i++) {
+            int k = order[i];
+            g.paints(1 + RIGHT[k], 1 + DOWN[k], 1 + RIGHT[k], 1 + DOWN[k], 1);
+            due("up to neighbour " + k, g.square(1, 1, 1, 0), sums[i]);
+        }
+        due("all in layer 2", g.square(1, 1, 2, 0), 0);
+        g = Check.told("row000;row010;row000;");
+        for (int k = 0; k < 8; k += 2) {
+            g.paints(1 + RIGHT[k], 1 + DOWN[k], 1 + RIGHT[k], 1 + DOWN[k], 1);
+        }
+        due("the four at sides", g.square(1, 1, 1, 0), 1 + 4 + 16 + 64);
+    }
+
     private static void cornersCountOnlyBetweenTwo() {
         CHECK.sentence("those at corners (1, 3, 5, 7) count only if both NEIGHBOURS beside them (k less 1; k and 1, 8 being 0) are OF it, too.");
         for (int k = 1; k < 8; k += 2) {
@@ -384,6 +405,22 @@ public final class TermsTest {
         for (int n = -1; n < g.count(0) * g.count(1); n++) {
             due("least(" + n + ") of " + text, g.least(n), NONE);
         }
+    }
+
+    private static void changedAreThoseOfAnotherHeight() {
+        CHECK.sentence("CHANGED, of CELLS: that have another HEIGHT.");
+        String[] texts = {"row0;", "row12;", "row02;", "row000;row030;row000;", "row030;fix1 0;", "row0123;row0123;row0123;row3210;row3210;row3210;"};
+        for (String text : texts) {
+            GroundEdges g = Check.told(text);
+            int others = 0;
+            for (int n = 0; n < g.count(0) * g.count(1); n++) {
+                others += g.least(n) == g.cell(n % g.count(0), n / g.count(0), 0) ? 0 : 1;
+            }
+            due("changed of " + text, g.least(-1), others);
+            due("settled of " + text, g.settles(), others == 0 ? STATE : others);
+        }
+        due("all but the fixed one", Check.told("row030;fix1 0;").least(-1), 2);
+        due("a cell in the middle", Check.told("row000;row030;row000;").least(-1), 1);
     }
 
     private static void leastIsNoChange() {
